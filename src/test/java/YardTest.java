@@ -136,6 +136,29 @@ public final class YardTest {
         Check.badIndex("8 x 8", () -> c.reachByQueue(8, 0));
         Check.badIndex("8 y -1", () -> c.reachByQueue(0, -1));
         diagonal();
+        overEachEdge();
+    }
+
+    /** Two rows of trees, or two columns of them, leave the cells on both sides of the edge. */
+    private static void overEachEdge() {
+        BoomerangCourt rows = new BoomerangCourt();
+        BoomerangCourt columns = new BoomerangCourt();
+        for (int i = 0; i < 8; i++) {
+            rows.setTree(i, 1, true);
+            rows.setTree(i, 6, true);
+            columns.setTree(1, i, true);
+            columns.setTree(6, i, true);
+        }
+        long edgeRows = 0xFF000000000000FFL;
+        long edgeColumns = 0x8181818181818181L;
+        Check.due("7 from row 7 to row 0", edgeRows, () -> rows.reach(2, 7));
+        Check.due("8 from row 7 to row 0", edgeRows, () -> rows.reachByQueue(2, 7));
+        Check.due("7 from row 0 to row 7", edgeRows, () -> rows.reach(2, 0));
+        Check.due("8 from row 0 to row 7", edgeRows, () -> rows.reachByQueue(2, 0));
+        Check.due("7 from column 7 to column 0", edgeColumns, () -> columns.reach(7, 3));
+        Check.due("8 from column 7 to column 0", edgeColumns, () -> columns.reachByQueue(7, 3));
+        Check.due("7 from column 0 to column 7", edgeColumns, () -> columns.reach(0, 3));
+        Check.due("8 from column 0 to column 7", edgeColumns, () -> columns.reachByQueue(0, 3));
     }
 
     /** Diagonal neighbours are not connected. */
