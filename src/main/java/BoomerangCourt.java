@@ -764,7 +764,7 @@ public final class BoomerangCourt {
         long seen = 1L << start;
         cellQueue[0] = start;
         int waiting = 1;
-        for (int i = 0; i < waiting; i++) {
+        for (int i = 0; i < waiting && i < CELLS; i++) {
             for (int direction = 0; direction < 8; direction += 2) {
                 int cell = neighbour(cellQueue[i], direction);
                 boolean isNew = ((seen >>> cell) & 1L) == 0 && !yard.hasTree(cell);
@@ -1271,7 +1271,7 @@ public final class BoomerangCourt {
             Arrays.fill(foundFrom, NONE);
             queue[0] = plea;
             int waiting = 1;
-            for (int i = 0; i < waiting; i++) {
+            for (int i = 0; i < waiting && i < MOST_PARTIES; i++) {
                 for (int ahead = 0; ahead < HOURS_AHEAD; ahead++) {
                     if (foundFrom[ahead] != NONE || !docket.canBeHeard(queue[i], docket.hour + ahead)) {
                         continue;
