@@ -4,6 +4,9 @@ final class Check {
         Object answer();
     }
 
+    /** What the questions are about; told before each wrong answer. */
+    static String about = "";
+
     private static int wrong = 0;
     private static int asked = 0;
 
@@ -24,8 +27,12 @@ final class Check {
         Object got = answerOf(call);
         if (!want.equals(got)) {
             wrong++;
-            System.out.println(what + " answered " + got + ", due is " + want);
+            System.out.println(about + what + " answered " + got + ", due is " + want);
         }
+    }
+
+    static int asked() {
+        return asked;
     }
 
     static void refused(String what, BoomerangCourt court, int reason, int detail, Call call) {
