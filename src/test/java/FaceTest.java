@@ -104,7 +104,6 @@ public final class FaceTest {
     }
 
     private static void source(List<String> lines) {
-        int begun = 0;
         for (int i = 0; i < lines.size(); i++) {
             String line = lines.get(i);
             String where = "line " + (i + 1);
@@ -114,8 +113,9 @@ public final class FaceTest {
                 Check.due(where + ": import", true, () -> isListed);
             }
             Check.due(where + ": signs 1 to 127", true, () -> line.chars().allMatch(sign -> sign < 128));
+            boolean isComment = line.trim().startsWith("/") || line.trim().startsWith("*");
             for (String forbidden : FORBIDDEN) {
-                boolean isFound = !line.contains("*") && Pattern.compile(forbidden).matcher(line).find();
+                boolean isFound = !isComment && Pattern.compile(forbidden).matcher(line).find();
                 Check.due(where + ": no " + forbidden, false, () -> isFound);
             }
         }
